@@ -68,6 +68,10 @@ public final class FlashesTest {
         }
         Due.is("2: a ninth make", x.make(0, 4, 1, 1, 1, 1, 2), -1);
         Due.is("2: count(0)", x.count(0), 8);
+        Due.is("2: there is no MAKE 8", x.of(8, 0), -1);
+        Due.is("2: there is no MAKE 8", x.send(8, 0), -1);
+        Due.is("2: there is no MAKE 8", x.read(8), -1);
+        Due.is("2: there is no MAKE 8", x.both(7, 8), -1);
         int[] kinds = {0, 1, 2, 0, 0, 0, 0, 0};
         int[] bits = {1, 24, 7, 3, 4, 5, 6, 7};
         for (int i = 0; i < 8; i++) {
@@ -415,6 +419,17 @@ public final class FlashesTest {
         Due.tape("10: stretch(60)", x, 1, 3, 158, 161, 20000, 20000, 20000, 0, -100, 20001, MAX, MIN);
         Due.yes("10: stretch(-60)", x.stretch(-60));
         Due.tape("10: stretch(-60)", x, 1, 1, 63, 64, 8000, 8000, 8000, 0, -100, 20001, MAX, MIN);
+        int[] full = new int[120];
+        java.util.Arrays.fill(full, 100);
+        Due.put(x, full);
+        Due.yes("10: stretch of all 120", x.stretch(7));
+        java.util.Arrays.fill(full, 107);
+        Due.tape("10: stretch of all 120", x, full);
+        Due.put(x, 100, 100, 100);
+        x.end(2);
+        x.stretch(50);
+        x.feed(1, 2, 3, 4, 5);
+        Due.tape("10: what was cut off is gone", x, 150, 150, 1, 2, 3, 4, 5);
         Due.put(x, 56, 990, 7, 3);
         Due.yes("10: stretch(-10)", x.stretch(-10));
         Due.tape("10: stretch(-10)", x, 50, 891, 6, 2);

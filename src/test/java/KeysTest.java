@@ -275,6 +275,15 @@ public final class KeysTest {
         Due.is("16: one KEY alone", x.check(0, 3), -1);
         Due.teach(x, 0, 1, 0b000111);
         Due.is("16: contrary", x.check(0, 3), 0);
+        for (int rule : new int[] {-1, 0, 4, MIN, MAX}) {
+            Due.is("16: no such CHECK", x.check(0, rule), -1);
+        }
+        Due.is("17: contrary alone holds", x.check(0, 1) + x.check(0, 2), -2);
+        Due.is("17: with contrary", x.many(0), 4);
+        int[] foreseen = {0b000111, 0b001110, 0b100011, 0b101010};
+        for (int i = 0; i < 4; i++) {
+            Due.is("18: with contrary", x.foreseen(0, i), foreseen[i]);
+        }
         Due.teach(x, 0, 2, 0b000110);
         Due.is("16: not contrary", x.check(0, 3), -1);
         Due.teach(x, 1, 0, 0xABC543);
