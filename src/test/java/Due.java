@@ -4,8 +4,18 @@ import java.util.NoSuchElementException;
 final class Due {
     private static int right = 0;
     private static int wrong = 0;
+    private static String heading = "";
 
     private Due() {
+    }
+
+    /** What is told ahead of each wrong answer from now on. */
+    static void under(String words) {
+        heading = words;
+    }
+
+    static int asked() {
+        return right + wrong;
     }
 
     static void is(String call, long got, long want) {
@@ -13,7 +23,7 @@ final class Due {
             right++;
         } else {
             wrong++;
-            System.out.println(call + " answered " + got + ", due is " + want);
+            System.out.println(heading + call + " answered " + got + ", due is " + want);
         }
     }
 
@@ -26,8 +36,9 @@ final class Due {
     }
 
     static void tape(String call, OneHandset x, int... times) {
-        is(call + ": TIMES", x.count(1), times.length);
-        for (int i = 0; i < times.length && i < x.count(1); i++) {
+        int size = x.count(1);
+        is(call + ": TIMES", size, times.length);
+        for (int i = 0; i < times.length && i < size; i++) {
             is(call + ": time(" + i + ")", x.time(i), times[i]);
         }
         noTime(call, x, times.length);

@@ -28,7 +28,8 @@ public final class RandomRunsTest {
     public static void main(String[] args) {
         for (int run = 0; run < RUNS; run++) {
             RandomRunsTest r = new RandomRunsTest(run);
-            for (int i = 0; i < CALLS && r.call(); i++) {
+            // a step makes no call, one or two
+            for (int step = 0; step < 2 * CALLS && r.calls.size() < CALLS - 1 && r.call(); step++) {
                 continue;
             }
         }
