@@ -697,6 +697,24 @@ public final class EdgesOfTermsTest {
         States.learn(x, 0, 1, 0b10100);
         Due.is("FLIP 0", x.many(0), 8);
         Due.is("FLIP 0", x.foreseen(0, 7), 0b10011);
+        OneHandset y = bits(0, 6);
+        States.learn(y, 0, 0, 0b101010);
+        States.learn(y, 0, 1, 0b000111);
+        Due.is("sums", y.check(0, 1), -1);
+        Due.is("odd bits", y.check(0, 2), -1);
+        Due.is("contrary bits alone", y.many(0), 4);
+        Due.is("the least", y.foreseen(0, 0), 0b000111);
+        Due.is("the most", y.foreseen(0, 3), 0b101010);
+        OneHandset z = bits(0, 8);
+        States.learn(z, 0, 0, 0x03);
+        States.learn(z, 0, 1, 0x65);
+        Due.is("sums", z.check(0, 1), -1);
+        Due.is("odd bits with c 3 alone", z.check(0, 2), 3);
+        Due.is("odd bits with c 3 alone", z.many(0), 4);
+        int[] due = {0x03, 0x21, 0x47, 0x65};
+        for (int i = 0; i < 4; i++) {
+            Due.is("odd bits with c 3 alone", z.foreseen(0, i), due[i]);
+        }
     }
 
     @Says(in = 0, is = "only if at most 14 bits are not FIXED (FLIP apart)")
